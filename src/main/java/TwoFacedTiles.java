@@ -15,6 +15,7 @@ public final class TwoFacedTiles {
     private static final int MOST_SAVED = 8;
     private static final int MOST_STEPS = 600;
     private static final int MOST_LAYINGS = 50;
+    private static final int MOST_STARTS = 2;
     private static final int MOST_CHARACTERS = 60;
     private static final int MOST_SEED = 999999999;
     private static final int MOST_COLORS = 9;
@@ -57,6 +58,7 @@ public final class TwoFacedTiles {
     private final Text text = new Text();
     private final Needs needs = new Needs();
     private final Search search = new Search();
+    private final Draws draws = new Draws();
 
     public TwoFacedTiles() {
         board.makeEmpty(2, 2);
@@ -111,7 +113,8 @@ public final class TwoFacedTiles {
         }
         history.save(board);
         board.makeEmpty(board.rows, board.columns);
-        board.cutTiles(new Draws(seed, colors));
+        draws.start(seed, colors);
+        board.cutTiles(draws);
         return board.tiles;
     }
 
@@ -274,10 +277,11 @@ public final class TwoFacedTiles {
         if (board.emptyCells() > 0) {
             return NONE;
         }
-        for (int bits = 0; bits <= 2; bits++) {
-            int mask = leastSureMask(bits);
-            if (mask != NONE) {
-                return mask;
+        for (int bits = 0; bits <= MOST_STARTS; bits++) {
+            for (int mask = 0; mask < 1 << board.cells(); mask++) {
+                if (Integer.bitCount(mask) == bits && search.isSure(board, mask)) {
+                    return mask;
+                }
             }
         }
         return NONE;
@@ -452,16 +456,6 @@ public final class TwoFacedTiles {
             }
         }
         return best == NONE ? NONE : 100 * best + firstPossible(best);
-    }
-
-    /** The least mask with so many bits whose tiles make the rest sure, NONE if there is none. */
-    private int leastSureMask(int bits) {
-        for (int mask = 0; mask < 1 << board.cells(); mask++) {
-            if (Integer.bitCount(mask) == bits && search.isSure(board, mask)) {
-                return mask;
-            }
-        }
-        return NONE;
     }
 
     private double fittingPart() {
@@ -813,16 +807,16 @@ public final class TwoFacedTiles {
         }
     }
 
-    /** The colors that are drawn for cut. */
+    /** The colors that are drawn for cut: the digits of the seed, from the last one on. */
     private static final class Draws {
-        private final int seed;
-        private final int colors;
-        private int rest;
+        private int seed = 1;
+        private int colors = 1;
+        private int rest = 1;
 
-        Draws(int seed, int colors) {
-            this.seed = seed;
-            this.colors = colors < 1 ? 1 : colors;
-            this.rest = seed;
+        void start(int newSeed, int newColors) {
+            seed = newSeed;
+            colors = newColors < 1 ? 1 : newColors;
+            rest = newSeed;
         }
 
         int next() {
@@ -983,17 +977,12 @@ public final class TwoFacedTiles {
             }
             needs[cell].read(trial, cell);
             for (int tile = 0; tile < trial.tiles && !over; tile++) {
-                if (!trial.isLaid(tile)) {
-                    tryWays(cell, tile);
-                }
-            }
-        }
-
-        private void tryWays(int cell, int tile) {
-            int first = WAYS * tile;
-            for (int placing = first; placing < first + WAYS && !over; placing++) {
-                if (needs[cell].reasonAgainst(trial.looks[placing]) == 0) {
-                    tryPlacing(cell, placing);
+                int first = WAYS * tile;
+                int end = trial.isLaid(tile) ? first : first + WAYS;
+                for (int placing = first; placing < end && !over; placing++) {
+                    if (needs[cell].reasonAgainst(trial.looks[placing]) == 0) {
+                        tryPlacing(cell, placing);
+                    }
                 }
             }
         }

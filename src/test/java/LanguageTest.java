@@ -12,10 +12,10 @@ public final class LanguageTest {
 
     private static final String[] FORBIDDEN = {
         "->", "::", "\\bimport\\b", "\\bpackage\\b", "\\bfinally\\b", "\\bassert\\b",
-        "\\bsynchronized\\b", "\\btry\\b", "\\bcatch\\b", "\\bextends\\b",
-        "\\bprotected\\b", "\\bstatic\\s*\\{", "\\bExact\\b", "\\bequals\\b", "\\bhashCode\\b",
-        "\\btoString\\b", "\\bDouble\\.", "\\bMath\\.\\w+Exact\\b", "\\bSystem\\.(?!arraycopy)",
-        "\\bRandom\\b", "\\bThread\\b", "\\bjava\\.", "\\bObject\\b"};
+        "\\bsynchronized\\b", "\\bprotected\\b", "\\bstatic\\s*\\{", "\\bhashCode\\b",
+        "\\btoString\\b", "\\bDouble\\.", "\\w+Exact\\(", "\\bSystem\\.(?!arraycopy)",
+        "\\bRandom\\b", "\\bThread\\b", "\\bjava\\.", "\\bObject\\b",
+        "\\b(Throwable|Exception|RuntimeException|NullPointerException)\\b"};
 
     private static final List<String> FACE = Arrays.asList("begin", "addTile", "dropTile",
         "setRule", "cut", "lay", "take", "fix", "clear", "turnOver", "solve", "append",
