@@ -1,11 +1,64 @@
-/** Collects what is wrong in a test, and ends it with exit code 1 if anything was. */
+import java.util.HashSet;
+import java.util.Set;
+
+/** Collects what is wrong in a test program, and ends it with exit code 1 if anything was. */
 final class Check {
+    static final Class<?> ARGUMENT = IllegalArgumentException.class;
+    static final Class<?> STATE = IllegalStateException.class;
+    static final Class<?> INDEX = IndexOutOfBoundsException.class;
+
     interface Call {
         void run();
     }
 
+    /** Makes an object with calls of its own, the same ones each time. */
+    interface Make {
+        TwoFacedTiles make();
+    }
+
+    interface Use {
+        void on(TwoFacedTiles tiles);
+    }
+
+    private final Set<String> names = new HashSet<>();
+    private String running = "";
     private int checks = 0;
     private int wrong = 0;
+
+    /** A test of its own for one case of a sentence of the document. */
+    void test(String name, Call call) {
+        running = name;
+        if (!names.add(name)) {
+            fail("another test has the same name");
+        }
+        Class<?> thrown = thrownBy(call);
+        if (thrown != null) {
+            fail("threw " + thrown);
+        }
+        running = "";
+    }
+
+    /** A test of its own: the call throws just this exception and changes nothing. */
+    void refused(String name, Class<?> due, Make make, Use call) {
+        test(name, () -> {
+            TwoFacedTiles used = make.make();
+            Class<?> thrown = thrownBy(() -> call.on(used));
+            checks++;
+            if (thrown != due) {
+                fail("threw " + thrown + ", due is " + due);
+            }
+            sameToTheOldestState(used, make.make());
+        });
+    }
+
+    /** What a twin tells is due, now and after each undo. */
+    void sameToTheOldestState(TwoFacedTiles used, TwoFacedTiles twin) {
+        same("digest", used.digest(), twin.digest());
+        for (int saved = twin.count(9); saved > 0; saved--) {
+            same("undo", used.undo(), twin.undo());
+            same("digest after undo", used.digest(), twin.digest());
+        }
+    }
 
     void same(String what, long got, long due) {
         checks++;
@@ -35,24 +88,25 @@ final class Check {
     }
 
     void refusesArgument(String what, TwoFacedTiles tiles, Call call) {
-        refuses(what, tiles, IllegalArgumentException.class, call);
+        refuses(what, tiles, ARGUMENT, call);
     }
 
     void refusesState(String what, TwoFacedTiles tiles, Call call) {
-        refuses(what, tiles, IllegalStateException.class, call);
+        refuses(what, tiles, STATE, call);
     }
 
     void refusesIndex(String what, TwoFacedTiles tiles, Call call) {
-        refuses(what, tiles, IndexOutOfBoundsException.class, call);
+        refuses(what, tiles, INDEX, call);
     }
 
     void fail(String message) {
         wrong++;
-        System.out.println("wrong: " + message);
+        System.out.println("wrong: " + (running.isEmpty() ? "" : running + ": ") + message);
     }
 
     void end() {
-        System.out.println(checks + " checks, " + wrong + " wrong");
+        System.out.println((names.isEmpty() ? "" : names.size() + " tests, ") + checks + " checks, "
+            + wrong + " wrong");
         if (wrong != 0) {
             System.exit(1);
         }

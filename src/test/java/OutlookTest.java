@@ -38,25 +38,8 @@ public final class OutlookTest {
         CHECK.same(when + " changes nothing", x.digest(), before);
     }
 
-    private static TwoFacedTiles withTiles(int rows, int columns, int... faces) {
-        TwoFacedTiles x = new TwoFacedTiles();
-        x.begin(rows, columns);
-        for (int i = 0; i < faces.length; i += 2) {
-            x.addTile(faces[i], faces[i + 1]);
-        }
-        return x;
-    }
-
-    private static TwoFacedTiles alike(int rows, int columns, int tiles, int face, int other) {
-        TwoFacedTiles x = withTiles(rows, columns);
-        for (int i = 0; i < tiles; i++) {
-            x.addTile(face, other);
-        }
-        return x;
-    }
-
     private static void layingsOfOneTile() {
-        TwoFacedTiles x = alike(1, 1, 1, 0, 1111);
+        TwoFacedTiles x = Puzzles.alike(1, 1, 1, 0, 1111);
         search("all ways", x, 50, 8, 8, 0);
         search("some ways", x, 3, 3, 3, 0);
         search("one way", x, 1, 1, 1, 0);
@@ -64,13 +47,13 @@ public final class OutlookTest {
         search("the face 0", x, 50, 4, 4, 0);
         x.setRule(2);
         search("no way", x, 50, 0, 0, 0);
-        search("no tile", alike(1, 1, 0, 0, 0), 50, 0, 0, 0);
-        search("too few tiles", alike(1, 2, 1, 0, 0), 50, 0, 8, 0);
-        search("too few for three", alike(1, 3, 2, 0, 0), 50, 0, 144, 0);
+        search("no tile", Puzzles.alike(1, 1, 0, 0, 0), 50, 0, 0, 0);
+        search("too few tiles", Puzzles.alike(1, 2, 1, 0, 0), 50, 0, 8, 0);
+        search("too few for three", Puzzles.alike(1, 3, 2, 0, 0), 50, 0, 144, 0);
     }
 
     private static void layingsEndWhenFound() {
-        TwoFacedTiles x = alike(3, 4, 12, 1111, 1111);
+        TwoFacedTiles x = Puzzles.alike(3, 4, 12, 1111, 1111);
         search("the first", x, 1, 1, 12, 0);
         search("the ways of the last tile", x, 8, 8, 19, 0);
         search("one tile back", x, 9, 9, 21, 0);
@@ -79,20 +62,20 @@ public final class OutlookTest {
     }
 
     private static void layingsEndWithSteps() {
-        search("three of four", alike(1, 4, 3, 1111, 1111), 1, 0, 600, 1);
-        search("one cell remains", alike(3, 4, 11, 1111, 1111), 50, 0, 600, 1);
+        search("three of four", Puzzles.alike(1, 4, 3, 1111, 1111), 1, 0, 600, 1);
+        search("one cell remains", Puzzles.alike(3, 4, 11, 1111, 1111), 50, 0, 600, 1);
     }
 
     private static void layingsEndJustAtTheLastStep() {
-        TwoFacedTiles x = withTiles(1, 4, 1111, 1121, 1111, 1111, 1122, 1212);
+        TwoFacedTiles x = Puzzles.withTiles(1, 4, 1111, 1121, 1111, 1111, 1122, 1212);
         search("600 steps and nothing more to try", x, 50, 0, 600, 0);
-        TwoFacedTiles y = withTiles(1, 4, 2112, 2111, 2222, 1111, 1111, 1111, 1111, 1111);
+        TwoFacedTiles y = Puzzles.withTiles(1, 4, 2112, 2111, 2222, 1111, 1111, 1111, 1111, 1111);
         search("the last one found at step 600", y, 5, 5, 600, 0);
         search("one more looked for", y, 6, 5, 600, 1);
     }
 
     private static void layingsFromWhatLies() {
-        TwoFacedTiles x = alike(1, 2, 3, 1111, 2222);
+        TwoFacedTiles x = Puzzles.alike(1, 2, 3, 1111, 2222);
         // Each of 24 ways in cell 0 leaves eight ways in cell 1, with the same face up.
         search("empty", x, 50, 50, 57, 0);
         x.lay(1, 8);
@@ -115,9 +98,9 @@ public final class OutlookTest {
     }
 
     private static void hintTakesTheLowestCell() {
-        TwoFacedTiles x = withTiles(2, 2, 1234, 5678);
+        TwoFacedTiles x = Puzzles.withTiles(2, 2, 1234, 5678);
         CHECK.same("all cells alike", x.hint(), 0);
-        TwoFacedTiles y = withTiles(1, 4, 1111, 1111, 1222, 1333);
+        TwoFacedTiles y = Puzzles.withTiles(1, 4, 1111, 1111, 1222, 1333);
         y.lay(2, 0);
         // In the cells 1 and 3 two ways are possible each, in cell 0 eight.
         CHECK.same("the lower one of two", y.hint(), 109);
@@ -125,13 +108,13 @@ public final class OutlookTest {
     }
 
     private static void hintTakesTheFewest() {
-        TwoFacedTiles x = withTiles(1, 4, 1111, 1111, 1222, 1333);
+        TwoFacedTiles x = Puzzles.withTiles(1, 4, 1111, 1111, 1222, 1333);
         x.lay(3, 0);
         CHECK.same("the cell next to what lies", x.hint(), 209);
-        TwoFacedTiles y = withTiles(1, 4, 1111, 1111, 2222, 2222);
+        TwoFacedTiles y = Puzzles.withTiles(1, 4, 1111, 1111, 2222, 2222);
         y.lay(0, 0);
         CHECK.same("not the cell without any", y.hint(), 208);
-        TwoFacedTiles z = withTiles(3, 4, 5555, 0, 1111, 0);
+        TwoFacedTiles z = Puzzles.withTiles(3, 4, 5555, 0, 1111, 0);
         z.setRule(1);
         // At the rim only face 1 is possible, in the cells 5 and 6 both faces of both tiles.
         CHECK.same("at the rim", z.hint(), 4);
@@ -140,10 +123,10 @@ public final class OutlookTest {
     private static void hintWithoutAny() {
         TwoFacedTiles x = new TwoFacedTiles();
         CHECK.same("no tiles", x.hint(), -1);
-        TwoFacedTiles y = withTiles(1, 2, 1111, 1111, 2222, 2222);
+        TwoFacedTiles y = Puzzles.withTiles(1, 2, 1111, 1111, 2222, 2222);
         y.lay(0, 0);
         CHECK.same("nothing fits", y.hint(), -1);
-        TwoFacedTiles z = withTiles(1, 1, 0, 0, 0, 0);
+        TwoFacedTiles z = Puzzles.withTiles(1, 1, 0, 0, 0, 0);
         z.lay(0, 2);
         CHECK.same("no cell is empty", z.hint(), -1);
     }
@@ -156,20 +139,20 @@ public final class OutlookTest {
 
     private static void startsWithoutFullBoard() {
         starts("new", new TwoFacedTiles(), -1);
-        TwoFacedTiles x = withTiles(1, 2, 0, 0);
+        TwoFacedTiles x = Puzzles.withTiles(1, 2, 0, 0);
         x.lay(0, 0);
         starts("a cell is empty", x, -1);
-        TwoFacedTiles y = withTiles(1, 2, 1111, 2222, 1345, 2678);
+        TwoFacedTiles y = Puzzles.withTiles(1, 2, 1111, 2222, 1345, 2678);
         y.lay(0, 0);
         starts("a cell is empty, though the rest is sure", y, -1);
     }
 
     private static void startsWithOneCell() {
-        TwoFacedTiles x = withTiles(1, 1, 1234, 5678);
+        TwoFacedTiles x = Puzzles.withTiles(1, 1, 1234, 5678);
         x.lay(0, 5);
         starts("eight ways for one tile", x, 1);
 
-        TwoFacedTiles y = withTiles(1, 2, 1111, 2222, 1345, 2678);
+        TwoFacedTiles y = Puzzles.withTiles(1, 2, 1111, 2222, 1345, 2678);
         y.lay(0, 0);
         y.lay(1, 11);
         starts("the second tile has one way", y, 1);
@@ -182,7 +165,7 @@ public final class OutlookTest {
         y.turnOver();
         starts("the first tile has one way", y, 2);
 
-        TwoFacedTiles z = withTiles(1, 2, 1111, 2222, 1345, 2678);
+        TwoFacedTiles z = Puzzles.withTiles(1, 2, 1111, 2222, 1345, 2678);
         z.lay(1, 0);
         z.lay(0, 9);
         starts("the other cell", z, 2);
@@ -191,14 +174,14 @@ public final class OutlookTest {
     }
 
     private static void startsWithTwoCells() {
-        TwoFacedTiles x = alike(1, 2, 2, 1111, 1111);
+        TwoFacedTiles x = Puzzles.alike(1, 2, 2, 1111, 1111);
         x.solve();
         starts("all cells", x, 3);
-        TwoFacedTiles y = alike(1, 3, 3, 1111, 1111);
+        TwoFacedTiles y = Puzzles.alike(1, 3, 3, 1111, 1111);
         y.solve();
         starts("three cells would do", y, -1);
         // The middle one can turn in four ways, and the outer ones can change places around it.
-        TwoFacedTiles z = withTiles(1, 3, 1345, 2678, 1111, 2222, 1456, 2678);
+        TwoFacedTiles z = Puzzles.withTiles(1, 3, 1345, 2678, 1111, 2222, 1456, 2678);
         z.solve();
         starts("one outer one and the middle one", z, 3);
     }
@@ -212,7 +195,7 @@ public final class OutlookTest {
     }
 
     private static void whyTellsEachReason() {
-        TwoFacedTiles x = withTiles(1, 2, 1111, 2222, 1111, 2222, 1111, 3333, 3333, 2222);
+        TwoFacedTiles x = Puzzles.withTiles(1, 2, 1111, 2222, 1111, 2222, 1111, 3333, 3333, 2222);
         CHECK.same("possible", x.why(0, 0), 0);
         x.lay(0, 0);
         CHECK.same("not empty", x.why(0, 8), 1);
@@ -224,14 +207,14 @@ public final class OutlookTest {
         x.setRule(1);
         CHECK.same("at the rim above", x.why(1, 8), 3);
 
-        TwoFacedTiles y = withTiles(1, 2, 100, 0, 1, 0);
+        TwoFacedTiles y = Puzzles.withTiles(1, 2, 100, 0, 1, 0);
         y.lay(0, 0);
         CHECK.same("0 below", y.why(1, 8), 0);
         y.setRule(1);
         CHECK.same("0 below with rule 1", y.why(1, 8), 0);
         y.setRule(2);
         CHECK.same("0 below with rule 2", y.why(1, 8), 6);
-        TwoFacedTiles z = withTiles(1, 2, 0, 0, 0, 0, 0, 1000);
+        TwoFacedTiles z = Puzzles.withTiles(1, 2, 0, 0, 0, 0, 0, 1000);
         z.lay(0, 0);
         z.setRule(1);
         CHECK.same("0 above with rule 1", z.why(1, 8), 6);
@@ -242,7 +225,7 @@ public final class OutlookTest {
     }
 
     private static void whyTellsTheFirstReason() {
-        TwoFacedTiles x = withTiles(2, 2, 1111, 2222, 1111, 3333, 9915, 9229, 9951, 9739);
+        TwoFacedTiles x = Puzzles.withTiles(2, 2, 1111, 2222, 1111, 3333, 9915, 9229, 9951, 9739);
         x.lay(0, 0);
         x.lay(3, 8);
         CHECK.same("not empty before laid", x.why(0, 8), 1);
@@ -253,7 +236,7 @@ public final class OutlookTest {
         CHECK.same("laid before rim", x.why(1, 0), 2);
         CHECK.same("rim before above", x.why(1, 16), 3);
 
-        TwoFacedTiles y = withTiles(2, 2, 0, 0, 1000, 2000, 10, 50, 10, 20);
+        TwoFacedTiles y = Puzzles.withTiles(2, 2, 0, 0, 1000, 2000, 10, 50, 10, 20);
         y.lay(0, 0);
         y.lay(3, 8);
         y.setRule(1);
@@ -313,7 +296,7 @@ public final class OutlookTest {
     }
 
     private static void digestOfLaidBoard() {
-        TwoFacedTiles x = withTiles(1, 2, 1234, 5678, 5, 9000);
+        TwoFacedTiles x = Puzzles.withTiles(1, 2, 1234, 5678, 5, 9000);
         x.lay(0, 1);
         x.fix(0);
         x.append('a');
@@ -326,7 +309,7 @@ public final class OutlookTest {
             1234, 5678, 0, 0, 5, 9000, -1, 1,
             0, 0, 0, -1, ONE, 2, 'a', '~'));
 
-        TwoFacedTiles y = withTiles(1, 1, 700, 1111);
+        TwoFacedTiles y = Puzzles.withTiles(1, 1, 700, 1111);
         y.setRule(0);
         CHECK.same("digest of a board to fill", y.digest(), hash(
             1, 1, 1, 1, 0, 0, 0, 0, 0, 3,

@@ -17,15 +17,9 @@ public final class TextTest {
         CHECK.end();
     }
 
-    private static void write(TwoFacedTiles x, String text) {
-        for (int i = 0; i < text.length(); i++) {
-            x.append(text.charAt(i));
-        }
-    }
-
     private static int errorOf(String text) {
         TwoFacedTiles x = new TwoFacedTiles();
-        write(x, text);
+        Puzzles.write(x, text);
         return x.firstError();
     }
 
@@ -51,7 +45,7 @@ public final class TextTest {
     private static void clearBuffer() {
         TwoFacedTiles x = new TwoFacedTiles();
         CHECK.same("clearBuffer of nothing", x.clearBuffer(), 0);
-        write(x, "ab;");
+        Puzzles.write(x, "ab;");
         CHECK.same("clearBuffer", x.clearBuffer(), 3);
         CHECK.same("clearBuffer again", x.clearBuffer(), 0);
         CHECK.same("append from the start", x.append('1'), 1);
@@ -85,7 +79,7 @@ public final class TextTest {
         for (int i = 0; i < 12; i++) {
             x.addTile(1, 1);
         }
-        write(x, "1234/5678");
+        Puzzles.write(x, "1234/5678");
         CHECK.same("too many tiles are no syntax error", x.firstError(), 9);
         CHECK.same("the buffer stays", x.clearBuffer(), 9);
     }
@@ -93,7 +87,7 @@ public final class TextTest {
     private static void load() {
         TwoFacedTiles x = new TwoFacedTiles();
         x.addTile(1, 2);
-        write(x, "1234/5678;0007/0800");
+        Puzzles.write(x, "1234/5678;0007/0800");
         CHECK.same("load", x.load(), 3);
         CHECK.same("first told, face 0", x.tile(1, 0), 1234);
         CHECK.same("first told, face 1", x.tile(1, 1), 5678);
@@ -105,7 +99,7 @@ public final class TextTest {
         CHECK.same("undo load", x.undo(), 1);
         CHECK.same("tiles then", x.count(2), 1);
         CHECK.same("the buffer stays cleared", x.clearBuffer(), 0);
-        write(x, "0000/0001;0000/0002;0000/0003;0000/0004;0000/0005;0000/0006");
+        Puzzles.write(x, "0000/0001;0000/0002;0000/0003;0000/0004;0000/0005;0000/0006");
         CHECK.same("load of six", x.load(), 7);
         for (int i = 1; i <= 6; i++) {
             CHECK.same("of six, face 0", x.tile(i, 0), 0);
@@ -117,7 +111,7 @@ public final class TextTest {
         String right = "1234/5678;0000/9999";
         for (int length = 0; length < right.length(); length++) {
             TwoFacedTiles x = new TwoFacedTiles();
-            write(x, right.substring(0, length));
+            Puzzles.write(x, right.substring(0, length));
             if (length != 9) {
                 CHECK.refusesArgument("load of a part", x, () -> x.load());
                 CHECK.same("the buffer stays", x.clearBuffer(), length);
@@ -126,12 +120,12 @@ public final class TextTest {
         for (String text : new String[] {"1234/567a", "1234/5678;", "12345678;", "1234;5678",
             "1234/5678/1234/5678", "1234/5678;1234/567;", "x234/5678", "1234/5678;0000/999:"}) {
             TwoFacedTiles x = new TwoFacedTiles();
-            write(x, text);
+            Puzzles.write(x, text);
             CHECK.refusesArgument("load of " + text, x, () -> x.load());
             CHECK.same("the buffer stays", x.clearBuffer(), text.length());
         }
         TwoFacedTiles x = new TwoFacedTiles();
-        write(x, "1234/5678;".repeat(6));
+        Puzzles.write(x, "1234/5678;".repeat(6));
         CHECK.refusesArgument("load of 60 characters", x, () -> x.load());
     }
 
@@ -140,15 +134,15 @@ public final class TextTest {
         for (int i = 0; i < 11; i++) {
             x.addTile(1, 1);
         }
-        write(x, "1234/5678;1234/5678");
+        Puzzles.write(x, "1234/5678;1234/5678");
         CHECK.refusesState("load of a 13th", x, () -> x.load());
         CHECK.same("the buffer stays", x.clearBuffer(), 19);
-        write(x, "1234/5678;1234/56789");
+        Puzzles.write(x, "1234/5678;1234/56789");
         CHECK.refusesArgument("load of a wrong text and a 13th", x, () -> x.load());
         x.clearBuffer();
-        write(x, "1234/5678");
+        Puzzles.write(x, "1234/5678");
         CHECK.same("load of the 12th", x.load(), 12);
-        write(x, "1234/5678");
+        Puzzles.write(x, "1234/5678");
         CHECK.refusesState("load after 12", x, () -> x.load());
         x.clearBuffer();
         CHECK.refusesArgument("load of nothing after 12", x, () -> x.load());
@@ -226,7 +220,7 @@ public final class TextTest {
         undoable("solve", x, () -> x.solve());
         x.take(3);
         undoable("dropTile", x, () -> x.dropTile());
-        write(x, "1111/2222");
+        Puzzles.write(x, "1111/2222");
         x.load();
         CHECK.same("load saves a state", x.count(9), 7);
         CHECK.same("load undone", x.undo(), 6);
