@@ -386,11 +386,14 @@ public final class BoardEdgesTest {
     private static void cutReplaces() {
         for (int tiles : new int[] {1, 4, 12}) {
             String p = "P6 cut, where there were " + tiles + " tiles: ";
-            CHECK.test(p + "a tile for each cell", () -> {
+            CHECK.test(p + "a tile for each cell, as on a new object", () -> {
                 TwoFacedTiles x = beforeCut(tiles);
+                TwoFacedTiles twin = new TwoFacedTiles();
+                twin.cut(12345678, 9);
                 CHECK.same("tiles", x.count(2), 4);
                 for (int tile = 0; tile < 4; tile++) {
-                    CHECK.same("is new", x.tile(tile, 0) == 4444 ? 1 : 0, 0);
+                    CHECK.same("face 0", x.tile(tile, 0), twin.tile(tile, 0));
+                    CHECK.same("face 1", x.tile(tile, 1), twin.tile(tile, 1));
                 }
             });
             CHECK.refused(p + "none more", Check.INDEX, () -> beforeCut(tiles),
@@ -497,6 +500,15 @@ public final class BoardEdgesTest {
             x.cut(12345, 9);
             x.cut(12345, 9);
             CHECK.same("tile 0 above", x.tile(0, 0), 600);
+        });
+        CHECK.test(p + "a second cut has nothing of the first one", () -> {
+            TwoFacedTiles x = Puzzles.withTiles(1, 2);
+            x.cut(88, 9);
+            x.cut(11, 9);
+            CHECK.same("tile 0 above", x.tile(0, 0), 200);
+            CHECK.same("tile 0 below", x.tile(0, 1), 2);
+            CHECK.same("tile 1 above", x.tile(1, 0), 2);
+            CHECK.same("tile 1 below", x.tile(1, 1), 200);
         });
     }
 }

@@ -181,6 +181,15 @@ public final class LayingEdgesTest {
             x.fix(3);
             CHECK.same("take", x.take(3), 5);
         });
+        CHECK.test(p + "the cell is not fixed then", () -> {
+            TwoFacedTiles x = oneFixed();
+            x.fix(3);
+            x.take(3);
+            CHECK.same("fixed", x.cell(3, 1), 0);
+            CHECK.same("fixed cells", x.count(4), 0);
+            x.lay(3, 8);
+            CHECK.same("fixed with another one", x.cell(3, 1), 0);
+        });
         CHECK.test(p + "another one is fixed", () -> {
             TwoFacedTiles x = oneFixed();
             x.lay(2, 8);

@@ -217,7 +217,11 @@ public final class PropertiesEdgesTest {
             {5678, 1234}, {8567, 2341}, {7856, 3412}, {6785, 4123}};
         for (int way = 0; way < 8; way++) {
             like("itself in way " + way, 0, 1234, 5678, ways[way][0], ways[way][1]);
+            like("tile 3 of five in way " + way, 3, 1, 2, 3, 4, 5, 6, 1234, 5678,
+                ways[way][0], ways[way][1]);
         }
+        like("the tile just before the highest", 10, 1, 0, 2, 0, 3, 0, 4, 0, 5, 0, 6, 0, 7, 0,
+            8, 0, 9, 0, 11, 0, 1234, 5678, 6785, 4123);
         like("it alone", 0, 1234, 5678);
         like("the lowest of several", 0, 1234, 5678, 1234, 5678, 1234, 5678);
         like("not the lowest tile of all", 1, 0, 0, 1234, 5678, 1234, 5678);

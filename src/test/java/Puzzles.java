@@ -1,12 +1,5 @@
 /** The objects that tests begin with. */
 final class Puzzles {
-    /** Numbers that are far outside of every range of the document. */
-    static final int[] FAR = {Integer.MIN_VALUE, Integer.MAX_VALUE};
-
-    /** The least and the highest number of rows and columns, and all between. */
-    static final int MOST_ROWS = 3;
-    static final int MOST_COLUMNS = 4;
-
     private Puzzles() {
     }
 
@@ -14,9 +7,10 @@ final class Puzzles {
         void of(int rows, int columns);
     }
 
+    /** All sizes that a board can have. */
     static void eachSize(Size size) {
-        for (int rows = 1; rows <= MOST_ROWS; rows++) {
-            for (int columns = 1; columns <= MOST_COLUMNS; columns++) {
+        for (int rows = 1; rows <= 3; rows++) {
+            for (int columns = 1; columns <= 4; columns++) {
                 size.of(rows, columns);
             }
         }
